@@ -31,6 +31,7 @@ public final class TaughtRemotes {
     private static final int SAVE_SLOTS = 2;
     private static final int MOST_COMMANDS = 3;
     private static final int COMMAND_DIGITS = 5;
+    private static final int COMMAND_GROUPS = 100000;
     private static final int MOST_TIMES = 60;
 
     private final Street street = new Street();
@@ -251,9 +252,7 @@ public final class TaughtRemotes {
         requireArgument(script >= 0 && script < powerOfTen(COMMAND_DIGITS * n));
         spare.copyFrom(street);
         for (int i = 0; i < n; i++) {
-            long behind = powerOfTen(COMMAND_DIGITS * (n - 1 - i));
-            long upToHere = behind > 0 ? script / behind : 0;
-            if (!Script.succeeds(spare, (int) (upToHere % powerOfTen(COMMAND_DIGITS)))) {
+            if (!Script.succeeds(spare, Script.groupAt(script, n - 1 - i))) {
                 return i;
             }
         }
@@ -1081,6 +1080,15 @@ public final class TaughtRemotes {
 
     /** The commands of scripts: each is a group of five digits, d1 to d5. */
     private static final class Script {
+        /** The group that has this many groups behind it. */
+        static int groupAt(long script, int behind) {
+            long upToIt = script;
+            for (int i = 0; i < behind; i++) {
+                upToIt /= COMMAND_GROUPS;
+            }
+            return (int) (upToIt % COMMAND_GROUPS);
+        }
+
         static boolean succeeds(Street street, int group) {
             int d2 = group / 1000 % 10;
             int d3 = group / 100 % 10;

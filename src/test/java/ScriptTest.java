@@ -111,7 +111,10 @@ public final class ScriptTest {
         Due.answers(Due.NONE, "teach and look", () -> t.runScript(2, 1008168101L));
         Due.answers(Due.NONE, "reach and look", () -> t.runScript(2, 4100080000L));
         Due.answers(1, "tolerance and look", () -> t.runScript(2, 5130080010L));
-        Due.answers(Due.NONE, "tolerance enough", () -> t.runScript(2, 5130083010L));
+        Due.answers(0, "too far by a bit", () -> tolerant().runScript(1, 80000));
+        Due.answers(1, "tolerance too small", () -> tolerant().runScript(2, 5000080000L));
+        Due.answers(Due.NONE, "tolerance enough", () -> tolerant().runScript(2, 5010080000L));
+        Due.answers(Due.NONE, "pressed then", () -> tolerant().runScript(3, 501002000090001L));
         Due.answers(1, "learned and gone", () -> t.runScript(2, 3800068001L));
         Due.same(before, Due.seen(t), "the state itself is as before");
         // The noise that a script sets is the noise that its teaching has: 5, of r % 10, is less
@@ -120,6 +123,10 @@ public final class ScriptTest {
         Due.answers(1, "no wrong bits", () -> noise.runScript(2, 1008078000L));
         Due.answers(Due.NONE, "noise 0", () -> noise.runScript(3, 400001008078000L));
         Due.answers(32, "x is as it was", () -> noise.teach(0, 0, 8, 0));
+    }
+
+    private static TaughtRemotes tolerant() {
+        return Due.street("R2k000002d000000");
     }
 
     private static void promise27() {

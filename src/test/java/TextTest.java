@@ -220,5 +220,10 @@ public final class TextTest {
         Due.answers(0, "load again", t::load);
         Due.answers(1, "a device is off when added", () -> t.addDevice(0, 0, 0) + 1);
         Due.answers(0, "none is on", () -> t.about(7));
+        TaughtRemotes on = Due.street("R2k000000d000000");
+        on.press(0, 0);
+        Due.answers(Due.NONE, "a script that sees it on", () -> on.runScript(1, 90001));
+        Due.answers(1, "load of the same text", on::load);
+        Due.answers(0, "it is off", () -> on.about(7));
     }
 }
