@@ -434,8 +434,10 @@ public final class TaughtRemotes {
 
         /** The record at this place, from 0, of the chain; NONE if the chain is shorter. */
         int ancestorOf(int i, int place) {
+            // No chain has more places than there are records.
+            int most = Math.min(place, MOST_RECORDS);
             int at = i;
-            for (int steps = 0; steps < place && at != NONE; steps++) {
+            for (int steps = 0; steps < most && at != NONE; steps++) {
                 at = parentOf(at);
             }
             return at;

@@ -234,21 +234,27 @@ public final class ActionsTest {
         }
     }
 
-    private static void promise21eachAction() {
+    private static TaughtRemotes pressedFamily() {
         TaughtRemotes t = Due.street("R9k000000d000003d100000n3");
         t.teach(0, 0, 8, 0);
         t.press(0, 0);
-        Due.Call[] actions = {
-            () -> t.enter(1, 2, 3), () -> t.teach(8, 0, 0, 0), () -> t.teach(0, 0, 0, 1),
-            () -> t.erase(0, 0), () -> t.erase(5, 5), () -> t.press(0, 0), () -> t.press(8, 0),
-            () -> t.addDevice(3, 3, 3), () -> t.setTolerance(1, 1), () -> t.setTolerance(1, 0),
-            () -> t.set(0, 2), () -> t.set(1, 8), () -> t.set(1, 2)};
+        return t;
+    }
+
+    private static void promise21eachAction() {
+        Bounds.Ask[] actions = {
+            t -> t.enter(1, 2, 3), t -> t.teach(8, 0, 0, 0), t -> t.teach(0, 0, 0, 1),
+            t -> t.erase(0, 0), t -> t.erase(5, 5), t -> t.press(0, 0), t -> t.press(8, 0),
+            t -> t.addDevice(3, 3, 3), t -> t.setTolerance(1, 1), t -> t.setTolerance(1, 0),
+            t -> t.set(0, 2), t -> t.set(1, 8), t -> t.set(1, 2)};
         for (int i = 0; i < actions.length; i++) {
+            TaughtRemotes t = pressedFamily();
             String before = Due.seen(t);
-            actions[i].answer();
+            actions[i].of(t);
             Due.answers(2, "undo of action " + i, t::undo);
             Due.same(before, Due.seen(t), "all as before action " + i);
         }
+        TaughtRemotes t = pressedFamily();
         // x comes back, too: the same is learned again.
         int learned = t.teach(8, 0, 3, 3);
         t.teach(8, 0, 3, 3);

@@ -6,7 +6,9 @@ import java.util.Random;
  */
 public final class ModelTest {
     private static final int RUNS = 600;
+    // An object is used for so many calls; what later ones answer is free.
     private static final int CALLS = 512;
+    private static final int CALLS_OF_A_TEXT = 130;
 
     private final Random dice;
     private final TaughtRemotes t = new TaughtRemotes();
@@ -35,9 +37,8 @@ public final class ModelTest {
         }
         while (calls < CALLS) {
             int kind = textOnly ? dice.nextInt(3) : dice.nextInt(60);
-            if (kind == 0) {
-                String text = dice.nextBoolean() ? street() : spoiled(street());
-                calls += write(text.substring(0, Math.min(text.length(), CALLS - calls)));
+            if (kind == 0 && calls < CALLS - CALLS_OF_A_TEXT) {
+                calls += write(dice.nextBoolean() ? street() : spoiled(street()));
                 compare(run, "errorPosition", t::errorPosition, m::errorPosition);
                 if (textOnly || dice.nextInt(8) == 0) {
                     compare(run, "load", t::load, m::load);
@@ -103,7 +104,7 @@ public final class ModelTest {
     }
 
     private int h() {
-        return below(Math.max(1, t.about(0)));
+        return below(Math.max(1, m.about(0)));
     }
 
     private int k() {
@@ -111,7 +112,7 @@ public final class ModelTest {
     }
 
     private int d() {
-        return below(Math.max(1, t.about(1)));
+        return below(Math.max(1, m.about(1)));
     }
 
     /** Codes that are often near one another. */
@@ -136,11 +137,11 @@ public final class ModelTest {
             return dice.nextInt(100000);
         }
         int kind = 1 + dice.nextInt(9);
-        int house = dice.nextInt(Math.min(10, t.about(0) + dice.nextInt(2)));
-        int device = dice.nextInt(t.about(1) + 1);
+        int house = dice.nextInt(Math.min(10, m.about(0) + dice.nextInt(2)));
+        int device = dice.nextInt(m.about(1) + 1);
         int key = dice.nextInt(2);
         int[] rest = switch (kind) {
-            case 1 -> new int[] {house, key, dice.nextInt(t.about(0)), dice.nextInt(2)};
+            case 1 -> new int[] {house, key, dice.nextInt(m.about(0)), dice.nextInt(2)};
             case 2, 3 -> new int[] {house, key, 0, 0};
             case 4 -> new int[] {dice.nextInt(3), dice.nextInt(10), 0, 0};
             case 5 -> new int[] {device, dice.nextInt(5), 0, 0};
@@ -164,7 +165,7 @@ public final class ModelTest {
         switch (dice.nextInt(38)) {
             case 0 -> ask(run, "about", below(10), 0, 0, 0);
             case 1, 2 -> ask(run, "key", a, b, below(6), 0);
-            case 3, 4 -> ask(run, "record", below(Math.max(1, t.about(2))), below(7), 0, 0);
+            case 3, 4 -> ask(run, "record", below(Math.max(1, m.about(2))), below(7), 0, 0);
             case 5 -> ask(run, "device", v, below(5), 0, 0);
             case 6 -> ask(run, "trace", a, b, below(5), 0);
             case 7 -> ask(run, "wentWrong", a, b, 0, 0);

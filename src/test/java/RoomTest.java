@@ -17,7 +17,7 @@ public final class RoomTest {
         atMost(MOST_BYTES_AN_OBJECT * OBJECTS, ofObjects, "bytes of new objects");
         TaughtRemotes t = Due.street("R9k000000n3d000000");
         before = bytes();
-        calls(t, 30);
+        calls(t, 25);
         atMost(MOST_BYTES_OF_CALLS, bytes() - before, "bytes of calls");
         Due.end("RoomTest");
     }
@@ -41,7 +41,7 @@ public final class RoomTest {
             t.set(0, 3);
             t.undo();
             t.errorPosition();
-            if (i % 15 == 14) {
+            if (i % 10 == 9) {
                 t.load();
             }
         }
