@@ -117,7 +117,8 @@ public final class ModelTest {
 
     /** Codes that are often near one another. */
     private int code() {
-        return dice.nextInt(3) == 0 ? below(4096) : 1365 ^ (dice.nextInt(4) == 0 ? 1 << dice.nextInt(12) : 0);
+        int bit = dice.nextInt(4) == 0 ? 1 << dice.nextInt(12) : 0;
+        return dice.nextInt(3) == 0 ? below(4096) : 1365 ^ bit;
     }
 
     private long script(int n) {
