@@ -35,11 +35,15 @@ public final class ReadmeTest {
     private static final Pattern TOLD = Pattern.compile(
             "(t\\.(\\w+)\\(.*\\)); +// (?:answers (-?\\d+|NONE)|throws (\\w+Exception)): \\S.*");
     // Lines that lead to an answer and have none of their own.
-    private static final Pattern UNTOLD = Pattern.compile("for \\(.*\\) \\{| {4}t\\.\\w+\\(.*\\);|\\}|");
+    private static final Pattern UNTOLD = Pattern.compile(
+            "|( {4})*(for \\(.*\\) \\{|\\})|( {4})+t\\.\\w+\\(.*\\);");
     private static final Pattern OF_THE_FACE = Pattern.compile(
             "public int (\\w+)\\(([^)]*)\\)(?: throws ([^;]*))?;");
     private static final Pattern ROW_OF_A_CALL = Pattern.compile(
             "\\| `((\\w+)\\([^`]*\\))` \\| (.+?) \\| ?([\\w, ]*?) ?\\|");
+
+    private static final Pattern ROW_OF_A_COMMAND = Pattern.compile(
+            "\\| `((\\d)( \\w){4})` \\| ?(.*?) ?\\| (.+) \\|");
 
     /** What the examples show, as "name answers", "name NONE" or "name throws X". */
     private static final Set<String> SHOWN = new HashSet<>();
@@ -50,9 +54,11 @@ public final class ReadmeTest {
     public static void main(String[] args) throws IOException, ReflectiveOperationException {
         List<String> lines = Files.readAllLines(README);
         run(examples(lines));
-        Map<String, String> thrown = thrownByTheFace(Files.readString(DOCUMENT));
+        String document = Files.readString(DOCUMENT);
+        Map<String, String> thrown = thrownByTheFace(document);
         callsAreThoseOfTheDocument(lines, thrown);
         eachCallIsShown(lines);
+        commandsAreThoseOfTheDocument(lines, document.replaceAll("\\s+", " "));
         exceptionsAreTold(lines, thrown);
         testsAreTold(lines);
         Due.end("ReadmeTest");
@@ -186,6 +192,20 @@ public final class ReadmeTest {
 
     private static void isShown(String what) {
         Due.same("true", "" + SHOWN.contains(what), "README.md shows: " + what + ",");
+    }
+
+    private static void commandsAreThoseOfTheDocument(List<String> lines, String document) {
+        StringBuilder kinds = new StringBuilder();
+        for (String line : lines) {
+            Matcher m = ROW_OF_A_COMMAND.matcher(line);
+            if (m.matches()) {
+                String meaning = m.group(4).isEmpty() ? "succeeds if " + m.group(5) : m.group(4);
+                String words = m.group(1) + ": " + meaning;
+                Due.same("true", "" + document.contains(words), "the document says " + words + ",");
+                kinds.append(m.group(2));
+            }
+        }
+        Due.same("123456789", kinds.toString(), "README.md's table of commands");
     }
 
     private static void exceptionsAreTold(List<String> lines, Map<String, String> thrown) {
